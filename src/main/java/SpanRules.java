@@ -418,33 +418,29 @@ public final class SpanRules {
 
     /** The calendar of the MONTHS, whose numbers count from January 1970 on. */
     private static final class Calendar {
-        private static final int[] DAYS_BEFORE = {0, 31, 59, 90, 120, 151, 181, 212, 243, 273, 304, 334};
-        private static final int EPOCH_YEAR = 1970;
         private static final long MONTHS_OF_400_YEARS = 4800;
         private static final long DAYS_OF_400_YEARS = 146097;
+        /** From March of the year 0 to January 1970. */
+        private static final long MONTHS_BEFORE = 23638;
+        private static final long DAYS_BEFORE = 719468;
 
+        /** Years are counted from March on: then a leap day is the last of its year. */
         static long firstDay(long month) {
-            long year = EPOCH_YEAR + by(month, MOST_MONTHS);
-            int ofYear = (int) (month - MOST_MONTHS * by(month, MOST_MONTHS));
-            long day = (year - EPOCH_YEAR) * 365 + leapYearsBefore(year) - leapYearsBefore(EPOCH_YEAR);
-            return day + DAYS_BEFORE[ofYear] + (ofYear > 1 && isLeap(year) ? 1 : 0);
+            long fromMarch = month + MONTHS_BEFORE;
+            long year = Math.floorDiv(fromMarch, 12L);
+            long leapDays = Math.floorDiv(year, 4L) - Math.floorDiv(year, 100L) + Math.floorDiv(year, 400L);
+            // five months from March or August on have 153 days, long and short by turns
+            long daysOfYear = (153 * (fromMarch - 12 * year) + 2) / 5;
+            return 365 * year + leapDays + daysOfYear - DAYS_BEFORE;
         }
 
         static long monthOf(long day) {
             // the even share of days is off by less than two months, so this starts low and goes up
-            long month = by(day * MONTHS_OF_400_YEARS, DAYS_OF_400_YEARS) - 2;
+            long month = Math.floorDiv(day * MONTHS_OF_400_YEARS, DAYS_OF_400_YEARS) - 2;
             for (int i = 0; i < 5 && firstDay(month + 1) <= day; i++) {
                 month++;
             }
             return month;
-        }
-
-        private static long leapYearsBefore(long year) {
-            return by(year - 1, 4) - by(year - 1, 100) + by(year - 1, 400);
-        }
-
-        private static boolean isLeap(long year) {
-            return leapYearsBefore(year + 1) > leapYearsBefore(year);
         }
     }
 
@@ -662,7 +658,7 @@ public final class SpanRules {
         }
 
         static boolean isIn(long[] set, int slot, int row) {
-            return (set[slot * WORDS + row / WORD_BITS] & 1L << row % WORD_BITS) != 0;
+            return (set[slot * WORDS + row / WORD_BITS] & (1L << row % WORD_BITS)) != 0;
         }
 
         int find(int key, long begin, long end) {

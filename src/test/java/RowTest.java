@@ -1,3 +1,5 @@
+import java.time.LocalDate;
+
 /** Promise 8: row, with the spans that each KIND makes, what is LATE, and what FIRES by a row. */
 public final class RowTest {
     private static final long TRILLION = 1000000000000L;
@@ -10,6 +12,7 @@ public final class RowTest {
         gaps();
         gapsThatFired();
         months();
+        everyDayOf400Years();
         own();
         late();
         early();
@@ -145,6 +148,20 @@ public final class RowTest {
         x.row(0, 0, 1);
         // -10^9 is 2 above a whole three, so spans begin in March, June, September, December
         Check.span("far offset", x, 0, 0, -31, 59);
+    }
+
+    private static void everyDayOf400Years() {
+        LocalDate first = LocalDate.of(1799, 1, 1);
+        for (int i = 0; i < 4800; i++) {
+            SpanRules x = new SpanRules(4, 1, 0);
+            long begin = first.plusMonths(i).toEpochDay();
+            long end = first.plusMonths(i + 1).toEpochDay();
+            for (long day = begin; day < end; day++) {
+                x.row(0, day, 1);
+            }
+            Check.due("one span of " + begin, x.spans(0), 1);
+            Check.span("month of " + begin, x, 0, 0, begin, end, end - begin);
+        }
     }
 
     private static void own() {
