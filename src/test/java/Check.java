@@ -51,6 +51,40 @@ final class Check {
         }
     }
 
+    /**
+     * All that an object tells: its counts, its spans and its FIRINGS. This asks more often than the 512 calls
+     * that the document promises; the class counts no calls, and calls that only tell change nothing in it.
+     */
+    static String told(SpanRules x) {
+        StringBuilder text = new StringBuilder();
+        for (int what = 0; what < 8; what++) {
+            text.append(x.count(what)).append(' ');
+        }
+        for (int key = 0; key < 8; key++) {
+            text.append("\nkey ").append(key).append(": ").append(x.spans(key));
+            for (int i = 0; x.span(key, i, 1) != UNKNOWN; i++) {
+                text.append("\n  span");
+                for (int what : new int[] {1, 2, 4, 5, 6, 7, 8, 9, 10}) {
+                    text.append(' ').append(x.span(key, i, what));
+                }
+            }
+        }
+        for (int k = 0; k < x.count(5); k++) {
+            text.append("\nfired");
+            for (int what = 0; what < 10; what++) {
+                text.append(' ').append(x.fired(k, what));
+            }
+        }
+        return text.toString();
+    }
+
+    static void same(String what, String got, String want) {
+        if (!got.equals(want)) {
+            wrong++;
+            System.out.println(what + ": not the same\n" + got + "\ndue is\n" + want);
+        }
+    }
+
     static void end() {
         if (wrong != 0) {
             System.out.println(wrong + " answers are not as due");
